@@ -91,6 +91,7 @@ public final class MapsTest {
         for (int d : new int[] {Integer.MIN_VALUE, -2, 0, 1, 3, 5, 6, 7, 9, 12, 15, 17, 32}) {
             Due.argument("14: d " + d, () -> desk.setMeter(1, 4, d));
         }
+        Due.argument("14: n 1, d 3", () -> desk.setMeter(1, 1, 3));
         Due.argument("14: bar and n 0", () -> desk.setMeter(100, 0, 4));
         Due.state("14: the first one", () -> desk.setMeter(0, 0, 4));
         Due.state("14: none begins", () -> desk.setMeter(1, 0, 4));

@@ -17,6 +17,7 @@ public final class NotesTest {
         promise10Notes();
         promise11Note();
         ranges();
+        removedNotesAreGone();
         Due.end("NotesTest");
     }
 
@@ -136,6 +137,8 @@ public final class NotesTest {
         Due.state("4: 60", () -> full.split(0, 10));
         Due.argument("4: 60 and wrong", () -> full.split(0, 0));
         Due.is("4: nothing split", 60, full::notes);
+        full.remove(59);
+        Due.is("4: into the last room", 60, () -> full.split(0, 10));
         OvertureDesk chord = new OvertureDesk();
         chord.write(0, 0, 10, 60, 60);
         chord.write(0, 0, 20, 60, 60);
@@ -158,6 +161,7 @@ public final class NotesTest {
         Due.state("5: -1", () -> desk.transpose(-1, 0, 9600, -6));
         note("5: nothing shifted", desk, 0, 0, 0, 10, 67, 60);
         note("5: nothing shifted", desk, 2, 1, 0, 10, 5, 60);
+        Due.state("5: the first place too", () -> desk.transpose(0, 0, 10, 61));
         Due.is("5: to 0", 3, () -> desk.transpose(-1, 0, 9600, -5));
         note("5: to 0", desk, 2, 1, 0, 10, 0, 60);
         Due.is("5: by 0", 1, () -> desk.transpose(1, 0, 1, 0));
@@ -359,5 +363,23 @@ public final class NotesTest {
         OvertureDesk late = new OvertureDesk();
         late.write(0, 0, 960, 60, 60);
         Due.is("5: a note that begins ahead is not in it", 0, () -> late.transpose(0, 1, 9600, 1));
+    }
+
+    /** What was removed or taken back is not looked at by any call. */
+    private static void removedNotesAreGone() {
+        OvertureDesk desk = new OvertureDesk();
+        desk.write(0, 10, 50, 60, 60);
+        desk.write(0, 11, 50, 60, 60);
+        desk.remove(1);
+        Due.is("3: chordAt", 0, () -> desk.chordAt(60));
+        Due.is("3: clashes", 0, desk::clashes);
+        Due.is("3: events", 2, desk::events);
+        Due.is("3: wouldMove", 1, () -> desk.wouldMove(-1, 0, 9600, 96));
+        Due.is("3: transpose", 1, () -> desk.transpose(-1, 0, 9600, 1));
+        Due.is("3: weigh", 1, () -> desk.weigh(-1, 0, 9600, 50));
+        Due.is("3: copy", 1, () -> desk.copy(-1, 0, 9600));
+        Due.is("3: quantise", 1, () -> desk.quantise(-1, 0, 9600, 96, 0, 100));
+        desk.copy(5, 0, 9600);
+        Due.is("8: paste", 0, () -> desk.paste(0));
     }
 }

@@ -162,6 +162,10 @@ public final class PlayedTest {
         Due.is("32: three", 3, desk::most);
         desk.setTrack(0, true, false, 0, 0);
         Due.is("32: silent", 2, desk::most);
+        desk.write(2, 40, 10, 60, 60);
+        desk.write(3, 45, 10, 60, 60);
+        desk.write(4, 49, 10, 60, 60);
+        Due.is("32: behind others", 3, desk::most);
     }
 
     private static void promise33PlayedTo() {
