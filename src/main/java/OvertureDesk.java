@@ -476,6 +476,8 @@ public final class OvertureDesk {
         sum = add(sum, song.meters.beatAt(1000));
         sum = add(sum, song.meters.startOfBar(7));
         sum = add(sum, song.notes.countClashes());
+        rendering.play(song);
+        rendering.sort();
         sum = addEvents(sum);
         for (int track = 0; track < TRACKS; track++) {
             rendering.playTrack(song, track);
@@ -499,8 +501,6 @@ public final class OvertureDesk {
     }
 
     private long addEvents(long before) {
-        rendering.play(song);
-        rendering.sort();
         long sum = add(before, rendering.size());
         for (int place = 0; place < rendering.size(); place++) {
             for (int what = 0; what < EVENT_FACTS; what++) {
@@ -986,9 +986,11 @@ public final class OvertureDesk {
         }
 
         private int meterAt(int tick) {
+            int start = 0;
             int meter = 0;
-            for (int i = 0; i < marks.size(); i++) {
-                if (startOf(i) <= tick) {
+            for (int i = 1; i < marks.size(); i++) {
+                start += (marks.placeAt(i) - marks.placeAt(i - 1)) * barLength(i - 1);
+                if (start <= tick) {
                     meter = i;
                 }
             }
@@ -1003,8 +1005,10 @@ public final class OvertureDesk {
         }
 
         int beatAt(int tick) {
-            int length = beatLength(meterAt(tick));
-            return length > 0 ? (tick - startOfBar(barAt(tick))) / length : 0;
+            int meter = meterAt(tick);
+            int bar = barLength(meter);
+            int beat = beatLength(meter);
+            return bar > 0 && beat > 0 ? (tick - startOf(meter)) % bar / beat : 0;
         }
 
         int startOfBar(int bar) {
