@@ -159,12 +159,13 @@ public final class MapsTest {
         Due.is("23: near the last", 99998, () -> desk.tickOf(5208280));
         Due.is("23: the last", 99999, () -> desk.tickOf(5208281));
         Due.is("23: far", 99999, () -> desk.tickOf(Integer.MAX_VALUE));
-        desk.setSpeed(10, 3000);
-        desk.setSpeed(9599, 200);
         for (int tick = 0; tick < 20000; tick += 7) {
             int here = tick;
-            Due.is("23: " + here, here, () -> desk.tickOf(desk.timeOf(here)));
-            Due.is("23: behind " + here, here, () -> desk.tickOf(desk.timeOf(here + 1) - 1));
+            OvertureDesk mapped = new OvertureDesk();
+            mapped.setSpeed(10, 3000);
+            mapped.setSpeed(9599, 200);
+            Due.is("23: " + here, here, () -> mapped.tickOf(mapped.timeOf(here)));
+            Due.is("23: behind " + here, here, () -> mapped.tickOf(mapped.timeOf(here + 1) - 1));
         }
         Due.argument("23: -1", () -> desk.tickOf(-1));
         Due.argument("23: far", () -> desk.tickOf(Integer.MIN_VALUE));

@@ -227,25 +227,36 @@ public final class PlayedTest {
         Due.is("33: the delay is behind the cut", 202, desk::playedTo);
     }
 
-    /** The room for what is played holds the most there can be. */
-    private static void theGreatestPlay() {
+    private static OvertureDesk greatest() {
         OvertureDesk desk = new OvertureDesk();
         for (int i = 0; i < 60; i++) {
             desk.write(i % 6, 9599 - i, 960, 127 - i, 1 + i);
         }
         desk.setLoop(0, 9600, 8);
+        return desk;
+    }
+
+    /** The room for what is played holds the most there can be. */
+    private static void theGreatestPlay() {
+        OvertureDesk desk = greatest();
         Due.is("29: greatest", 960, desk::events);
         Due.is("33: greatest", 76800, desk::playedTo);
         Due.is("32: greatest", 60, desk::most);
         Due.is("34: greatest", 30.5, desk::meanForce);
         Due.is("30: greatest", 76800, () -> desk.event(959, 0));
         Due.index("30: greatest", () -> desk.event(960, 0));
-        int last = -1;
-        for (int i = 0; i < 960; i++) {
+        for (int from = 0; from < 960; from += 240) {
+            greatestEvents(from);
+        }
+    }
+
+    /** Two times of the loop: 60 notes begin one tick after another, and all of them end where the loop does. */
+    private static void greatestEvents(int from) {
+        OvertureDesk desk = greatest();
+        for (int i = from; i < from + 240; i++) {
             int event = i;
-            int before = last;
-            Due.is("30: in order " + i, true, () -> desk.event(event, 0) >= before);
-            last = desk.event(i, 0);
+            int tick = i % 120 < 60 ? 9540 + i % 120 : 9600;
+            Due.is("30: in order " + i, tick + 9600 * (i / 120), () -> desk.event(event, 0));
         }
     }
 }

@@ -69,8 +69,8 @@ public final class TakingBackTest {
         Due.is("18: no notes", 0, desk::notes);
     }
 
-    /** Each kind of change is taken back, and done again, whole. */
-    private static void promise18AllKinds() {
+    /** Each kind of change, one after another on one desk. */
+    private static OvertureDesk withKinds(int count) {
         OvertureDesk desk = new OvertureDesk();
         for (int i = 0; i < 10; i++) {
             desk.write(i % 3, i * 110, 100 + i, 50 + i, 60 + i);
@@ -85,22 +85,34 @@ public final class TakingBackTest {
             () -> desk.setSpeed(50, 700), () -> desk.setSpeed(50, 701), () -> desk.setSpeed(50, 0),
             () -> desk.setMeter(2, 5, 8), () -> desk.setMeter(2, 5, 16), () -> desk.setMeter(2, 0, 0),
             () -> desk.setLoop(0, 300, 3), () -> desk.setLoop(0, 310, 3), () -> desk.setLoop(0, 310, 0)};
-        long[] sums = new long[changes.length + 1];
-        sums[0] = sumOf(desk);
-        for (int i = 0; i < changes.length; i++) {
+        for (int i = 0; i < count; i++) {
             changes[i].run();
-            sums[i + 1] = sumOf(desk);
-            Due.is("18: change " + i + " is one", Math.min(20, 11 + i), desk::undos);
+            int number = i;
+            Due.is("18: change " + i + " is one", Math.min(20, 11 + number), desk::undos);
         }
-        for (int i = changes.length; i > 0; i--) {
-            long before = sums[i - 1];
-            Due.is("18: to take back", i - 1, desk::undo);
-            Due.is("18: change " + (i - 1) + " taken back", before, () -> sumOf(desk));
-        }
-        for (int i = 0; i < changes.length; i++) {
-            long behind = sums[i + 1];
-            Due.is("19: to do again", changes.length - 1 - i, desk::redo);
-            Due.is("19: change " + i + " done again", behind, () -> sumOf(desk));
+        return desk;
+    }
+
+    /** Each kind of change is taken back, and done again, whole. */
+    private static void promise18AllKinds() {
+        for (int count = 0; count <= 20; count++) {
+            int behind = count;
+            long want = sumOf(withKinds(count));
+            OvertureDesk back = withKinds(20);
+            for (int i = 19; i >= count; i--) {
+                int left = i;
+                Due.is("18: to take back", left, back::undo);
+            }
+            Due.is("18: back to " + count + " changes", want, () -> sumOf(back));
+            OvertureDesk again = withKinds(20);
+            for (int i = 0; i < 20; i++) {
+                again.undo();
+            }
+            for (int i = 0; i < behind; i++) {
+                int left = 19 - i;
+                Due.is("19: to do again", left, again::redo);
+            }
+            Due.is("19: again to " + count + " changes", want, () -> sumOf(again));
         }
     }
 
