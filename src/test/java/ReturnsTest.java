@@ -613,6 +613,13 @@ public final class ReturnsTest {
             OvertureDesk desk = desk(java.util.Arrays.copyOfRange(row, 1, row.length));
             Due.is("37: " + java.util.Arrays.toString(row), row[0], () -> desk.bestStep(-1, 0, 9600));
         }
+        OvertureDesk off = new OvertureDesk();
+        for (int i = 0; i < 60; i++) {
+            off.write(i % 6, 1 + 96 * i, 1, 60, 60);
+            int count = i + 1;
+            Due.is("37: all are off", count, () -> off.wouldMove(-1, 0, 9600, 6));
+            Due.is("37: all " + count + " are off by each step", 96, () -> off.bestStep(-1, 0, 9600));
+        }
         OvertureDesk ranged = desk(48, 100, 108);
         Due.is("37: those in the range", 48, () -> ranged.bestStep(0, 48, 49));
         Due.is("37: those in the range", 12, () -> ranged.bestStep(0, 101, 9600));
